@@ -972,7 +972,7 @@ public final class RampShafts {
             return sign - '0';
         }
 
-        /** The number that stands next, -1 if none does; a digit too many is left, as nothing can read it behind a number. */
+        /** The number that stands next, -1 if none does; a digit too many is left, for nothing reads it there. */
         private int takeNumber() {
             int result = takeDigit();
             if (result < 1) {
