@@ -370,7 +370,8 @@ public final class RampShafts {
         }
 
         int intervalOf(int level) {
-            return Math.max(start - gain * level, top);
+            int wanted = start - gain * level;
+            return wanted > top ? wanted : top;
         }
 
         int highestLevel() {
@@ -473,6 +474,7 @@ public final class RampShafts {
             }
         }
 
+        /** Begins moves that wait, until one of them is not over at once; none if the shaft moves. */
         void beginWaiting(int now, Ramp ramp) {
             for (int tried = 0; tried < MOST_WAITING && waitCount > 0 && !moves(); tried++) {
                 int place = waits[0];
@@ -499,7 +501,6 @@ public final class RampShafts {
                 next = now + ramp.intervalOf(level);
             } else {
                 level = 0;
-                beginWaiting(now, ramp);
             }
         }
 
@@ -702,6 +703,7 @@ public final class RampShafts {
             for (int number = 0; number < shafts.length; number++) {
                 if (isDue(number)) {
                     shafts[number].makeStep(time, ramp);
+                    shafts[number].beginWaiting(time, ramp);
                     made++;
                 }
             }

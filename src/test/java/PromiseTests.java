@@ -274,6 +274,16 @@ public final class PromiseTests {
         x.move(0, -4);
         x.pass(60);
         due("less", x.home(0), ZERO - 4);
+        x.set(GRIP, 0);
+        x.set(PULL, 0);
+        x.move(0, 8);
+        x.pass(110);
+        x.set(GRIP, 40);
+        x.set(PULL, 20);
+        x.move(0, 0);
+        x.pass(110);
+        due("less than where it is, away from 0", x.home(0), ZERO - 8);
+        due("says", x.of(0, SAYS), ZERO + 8);
         due("displaced", x.count(DISPLACED), 0);
     }
 
