@@ -4,9 +4,14 @@ import java.util.Random;
 import java.util.regex.Matcher;
 import java.util.regex.Pattern;
 
-/** Long runs of calls, each answered by RampShafts and by a plain second program that goes tick by tick. */
+/**
+ * Runs of as many calls as an object is promised for, each answered by RampShafts and by a plain second program that goes
+ * tick by tick.
+ */
 public final class ModelTests {
-    private static final int RUNS = 3000, CALLS = 512;
+    private static final int RUNS = 8000, MOST_CALLS = 512;
+    /** What sameState asks, and what the longest change asks. */
+    private static final int STATE_CALLS = 214, CHANGE_CALLS = 16;
 
     private static final class Axis implements Cloneable {
         int micro, load, way, left, level, countdown, made, lost;
@@ -406,6 +411,7 @@ public final class ModelTests {
     }
 
     private static Random random;
+    private static int calls;
 
     private static int some(int least, int most) {
         return least + random.nextInt(most - least + 1);
@@ -468,6 +474,7 @@ public final class ModelTests {
     }
 
     private static void check(int run, String call, int got, int want) {
+        calls++;
         if (got == want) return;
         System.out.println("run " + run + ": " + call + " answered " + got + ", due is " + want);
         System.exit(1);
@@ -559,7 +566,7 @@ public final class ModelTests {
 
     private static void ask(int run, RampShafts x, Model m) {
         int a = number();
-        switch (some(0, 4)) {
+        switch (some(0, 8)) {
             case 0 -> check(run, "restsIn(" + a + ")", x.restsIn(a), m.restsIn(a));
             case 1 -> {
                 int rank = value(0, chance(50) ? 5 : 99), what = value(0, 2);
@@ -573,10 +580,29 @@ public final class ModelTests {
                 int steps = value(1, chance(50) ? 40 : 999), load = value(0, 9);
                 check(run, "bestGain(" + steps + ", " + load + ")", x.bestGain(steps, load), m.bestGain(steps, load));
             }
-            default -> {
+            case 4 -> {
                 int level = value(0, 99);
                 check(run, "interval(" + level + ")", x.interval(level), m.interval(level));
             }
+            case 5 -> check(run, "stopsAt(" + a + ")", x.stopsAt(a), m.stopsAt(a));
+            case 6 -> check(run, "bears(" + a + ")", x.bears(a), m.bears(a));
+            case 7 -> {
+                int what = value(0, 14);
+                check(run, "count(" + what + ")", x.count(what), m.count(what));
+            }
+            default -> {
+                int what = value(0, 11);
+                check(run, "of(" + a + ", " + what + ")", x.of(a, what), m.of(a, what));
+            }
+        }
+    }
+
+    /** The bound of time is seen only by runs that begin late. */
+    private static void beginLate(int run, RampShafts x, Model m) {
+        for (int hours = 0; hours < 100; hours++) {
+            World before = m.now.copy();
+            int ticks = hours < 99 ? 999 : some(1, 999);
+            check(run, "pass(" + ticks + ")", x.pass(ticks), m.changed(before, m.pass(ticks)));
         }
     }
 
@@ -584,6 +610,7 @@ public final class ModelTests {
         int runs = args.length > 0 ? Integer.parseInt(args[0]) : RUNS;
         for (int run = 0; run < runs; run++) {
             random = new Random(run);
+            calls = 0;
             RampShafts x = new RampShafts();
             Model m = new Model();
             int shafts = some(0, 4);
@@ -592,12 +619,13 @@ public final class ModelTests {
                 int micro = anyOf(1, 2, 4);
                 check(run, "shaft(" + micro + ")", x.shaft(micro), m.changed(before, m.shaft(micro)));
             }
-            for (int call = 0; call < CALLS; call++) {
-                if (chance(12)) ask(run, x, m);
+            if (chance(3)) beginLate(run, x, m);
+            while (calls + CHANGE_CALLS + STATE_CALLS <= MOST_CALLS) {
+                if (chance(30)) ask(run, x, m);
                 else change(run, x, m);
-                if (call % 16 == 0) sameState(run, x, m);
             }
             sameState(run, x, m);
+            if (calls > MOST_CALLS) throw new IllegalStateException(calls + " calls");
         }
         System.out.println("all runs are as due");
     }
