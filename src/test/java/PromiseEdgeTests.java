@@ -1,10 +1,10 @@
-/** The edges that the promises 1 to 27 name, a test for each sentence: both sides of each edge. RefusalTests has the errors. */
+/** The edges that the promises name, a test for each sentence: both sides of each edge. RefusalTests has all the errors. */
 public final class PromiseEdgeTests {
     private static final int NO_SUCH = Checks.NO_SUCH, BAD_VALUE = Checks.BAD_VALUE, BAD_TEXT = Checks.BAD_TEXT;
     private static final int TOO_MANY = Checks.TOO_MANY, NOT_POSSIBLE = Checks.NOT_POSSIBLE, NONE = Checks.NONE, ZERO = Checks.ZERO;
     private static final int SAYS = 0, STANDS = 1, MICRO = 2, LOAD = 3, MOVES = 4, LEFT = 5, LEVEL = 6, NEXT = 7, WAITS = 8;
     private static final int STEPS_OF = 9, LOST_OF = 10, BEHIND = 11;
-    private static final int TIME = 0, SHAFTS = 1, MOVING = 2, DISPLACED = 3, PLANS = 4, STEPS = 5, LOST = 6, HIGHEST = 7;
+    private static final int TIME = 0, SHAFTS = 1, MOVING = 2, DISPLACED = 3, PLANS = 4, LOST = 6, HIGHEST = 7;
     private static final int PAD = 13, UNDOABLE = 14;
 
     private static void sentence(String words) {
@@ -261,7 +261,9 @@ public final class PromiseEdgeTests {
         x.load(0, 9);
         x.move(0, 4);
         x.pass(60);
+        due("elsewhere than it says", x.count(DISPLACED), 1);
         due("more", x.home(0), ZERO + 4);
+        due("where it says", x.count(DISPLACED), 0);
         due("what it says is where it is", x.of(0, SAYS), ZERO);
         due("where it is stays", x.of(0, STANDS), ZERO);
         due("home again", x.home(0), ZERO);

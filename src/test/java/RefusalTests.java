@@ -2,8 +2,8 @@ import java.util.ArrayList;
 import java.util.List;
 
 /**
- * Each call that is refused, with the error that applies first, and that it changes nothing: an object with the refused
- * call and one without it answer alike afterwards, whatever is done next.
+ * Each call that is refused, with the error that applies first, and that it changes nothing, as no question does: an object
+ * with the call and one without it answer alike afterwards, whatever is done next.
  */
 public final class RefusalTests {
     private static final int NO_SUCH = Checks.NO_SUCH, BAD_VALUE = Checks.BAD_VALUE, BAD_TEXT = Checks.BAD_TEXT;
@@ -117,19 +117,23 @@ public final class RefusalTests {
     }
 
     private static void refused(Named bench, String call, int error, Call refused) {
+        RampShafts x = new RampShafts();
+        bench.call().on(x);
+        int answer = refused.on(x);
+        if (answer != error) Checks.fail(bench.name() + ": " + call + " answered " + answer + ", due is " + error);
+        changesNothing(bench, call, refused);
+    }
+
+    private static void changesNothing(Named bench, String told, Call call) {
         for (Named probe : PROBES) {
             RampShafts with = new RampShafts();
             RampShafts without = new RampShafts();
             bench.call().on(with);
             bench.call().on(without);
-            int answer = refused.on(with);
-            if (answer != error) {
-                Checks.fail(bench.name() + ": " + call + " answered " + answer + ", due is " + error);
-                return;
-            }
+            call.on(with);
             int done = probe.call().on(with);
             if (done != probe.call().on(without) || !allAnswers(with).equals(allAnswers(without))) {
-                Checks.fail(bench.name() + ": " + call + " changed something; seen by: " + probe.name());
+                Checks.fail(bench.name() + ": " + told + " changed something; seen by: " + probe.name());
                 return;
             }
         }
@@ -350,6 +354,31 @@ public final class RefusalTests {
         refused(LATE, "restore(0), only the slot 1 has something", NOT_POSSIBLE, x -> x.restore(0));
     }
 
+    private static void questions() {
+        for (Named bench : new Named[] {NEW, BUSY, FULL, LATE, FAULTY}) {
+            changesNothing(bench, "fault()", x -> x.fault());
+            for (int asked = 0; asked < 4; asked++) {
+                int shaft = asked;
+                changesNothing(bench, "restsIn(" + shaft + ")", x -> x.restsIn(shaft));
+                changesNothing(bench, "stopsAt(" + shaft + ")", x -> x.stopsAt(shaft));
+                changesNothing(bench, "bears(" + shaft + ")", x -> x.bears(shaft));
+                changesNothing(bench, "of(" + shaft + ", 11)", x -> x.of(shaft, 11));
+                changesNothing(bench, "waiting(" + shaft + ", 0)", x -> x.waiting(shaft, 0));
+            }
+            for (int rank : new int[] {0, 3, 99}) {
+                changesNothing(bench, "nextStep(" + rank + ", 2)", x -> x.nextStep(rank, 2));
+                changesNothing(bench, "planned(" + rank + ", 2)", x -> x.planned(rank, 2));
+            }
+            for (int steps : new int[] {1, 999}) {
+                changesNothing(bench, "moveOf(" + steps + ", 0)", x -> x.moveOf(steps, 0));
+                changesNothing(bench, "moveOf(" + steps + ", 1)", x -> x.moveOf(steps, 1));
+                changesNothing(bench, "bestGain(" + steps + ", 9)", x -> x.bestGain(steps, 9));
+            }
+            changesNothing(bench, "interval(99)", x -> x.interval(99));
+            changesNothing(bench, "count(14)", x -> x.count(14));
+        }
+    }
+
     public static void main(String[] args) {
         Checks.sentence("A call that returns an error changes nothing.");
         benchesAreAsTold();
@@ -365,6 +394,8 @@ public final class RefusalTests {
         whatIfs();
         texts();
         statesThatAreKept();
+        Checks.sentence("what if; nothing changes");
+        questions();
         Checks.end();
     }
 }
